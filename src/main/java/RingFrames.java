@@ -403,25 +403,29 @@ public final class RingFrames {
             freshCut = other.freshCut;
         }
 
-        boolean addDrive(int length, int station) {
-            if (closed || drives >= MOST_DRIVES) {
-                return false;
-            }
-            int first = drives * DRIVE_COLUMNS;
-            Arrays.fill(driveRows, first, first + DRIVE_COLUMNS, 0);
-            driveRows[first + STATION] = station;
-            putNewLink(drives, length);
-            drives++;
-            return true;
+        boolean takesDrive() {
+            return !closed && drives < MOST_DRIVES;
         }
 
-        boolean closeBy(int length) {
-            if (closed || drives == 0) {
-                return false;
+        void addDrive(int length, int station) {
+            if (takesDrive()) {
+                int first = drives * DRIVE_COLUMNS;
+                Arrays.fill(driveRows, first, first + DRIVE_COLUMNS, 0);
+                driveRows[first + STATION] = station;
+                putNewLink(drives, length);
+                drives++;
             }
-            putNewLink(drives, length);
-            closed = true;
-            return true;
+        }
+
+        boolean takesClosing() {
+            return !closed && drives > 0;
+        }
+
+        void closeBy(int length) {
+            if (takesClosing()) {
+                putNewLink(drives, length);
+                closed = true;
+            }
         }
 
         private void putNewLink(int k, int length) {
@@ -429,18 +433,20 @@ public final class RingFrames {
             putLink(k, CUT, 0);
         }
 
-        boolean addOrder(int letter, int aim, int number, int at, int value) {
-            if (orders >= MOST_ORDERS) {
-                return false;
+        boolean takesOrder() {
+            return orders < MOST_ORDERS;
+        }
+
+        void addOrder(int letter, int aim, int number, int at, int value) {
+            if (takesOrder()) {
+                int first = orders * ORDER_COLUMNS;
+                orderRows[first + LETTER] = letter;
+                orderRows[first + AIM] = aim;
+                orderRows[first + NUMBER] = number;
+                orderRows[first + AT] = at;
+                orderRows[first + VALUE] = value;
+                orders++;
             }
-            int first = orders * ORDER_COLUMNS;
-            orderRows[first + LETTER] = letter;
-            orderRows[first + AIM] = aim;
-            orderRows[first + NUMBER] = number;
-            orderRows[first + AT] = at;
-            orderRows[first + VALUE] = value;
-            orders++;
-            return true;
         }
 
         boolean hasDrive(int d) {
@@ -818,7 +824,7 @@ public final class RingFrames {
         }
 
         private boolean readsDrive(Ring draft) {
-            if (draft.closed || draft.drives >= MOST_DRIVES) {
+            if (!draft.takesDrive()) {
                 return false;
             }
             text.step();
@@ -827,16 +833,24 @@ public final class RingFrames {
                 return false;
             }
             int station = takeNumber(0, GREATEST_STATION);
-            return station != NO_NUMBER && takesEnd() && draft.addDrive(length, station);
+            if (station == NO_NUMBER || !takesEnd()) {
+                return false;
+            }
+            draft.addDrive(length, station);
+            return true;
         }
 
         private boolean readsClosing(Ring draft) {
-            if (draft.closed || draft.drives == 0) {
+            if (!draft.takesClosing()) {
                 return false;
             }
             text.step();
             int length = takeNumber(1, GREATEST_LENGTH);
-            return length != NO_NUMBER && takesEnd() && draft.closeBy(length);
+            if (length == NO_NUMBER || !takesEnd()) {
+                return false;
+            }
+            draft.closeBy(length);
+            return true;
         }
 
         private boolean readsLimit(Ring draft) {
@@ -866,7 +880,7 @@ public final class RingFrames {
 
         private boolean readsOrder(Ring draft) {
             int letter = text.kind;
-            if (draft.orders >= MOST_ORDERS || letter != 'r' && letter != 'w' && letter != 'x') {
+            if (!draft.takesOrder() || letter != 'r' && letter != 'w' && letter != 'x') {
                 return false;
             }
             text.step();
@@ -884,7 +898,11 @@ public final class RingFrames {
                 return false;
             }
             int value = takeNumber(0, GREATEST_BYTE);
-            return value != NO_NUMBER && takesEnd() && draft.addOrder(letter, aim, number, at, value);
+            if (value == NO_NUMBER || !takesEnd()) {
+                return false;
+            }
+            draft.addOrder(letter, aim, number, at, value);
+            return true;
         }
 
         /** Steps on only over what may stand there, so that the token at fault stays the one looked at. */
