@@ -1,49 +1,5 @@
 /** For each promise of the document: ordinary calls, the edges that it names, and wrong inputs. */
-public final class PromisesTest {
-    private static final int BAD = -1, STATE = -2, FULL = -3, NONE = -9, NO = -1000000;
-    private static final int[] OUTSIDE = {-1, Integer.MIN_VALUE, Integer.MAX_VALUE};
-
-    private static int wrong = 0;
-    private static String promise = "";
-
-    private static void due(String call, int got, int want) {
-        if (got != want) {
-            wrong++;
-            System.out.println(promise + ": " + call + " answered " + got + ", due is " + want);
-        }
-    }
-
-    private static void typeAll(RingFrames x, String text) {
-        for (int i = 0; i < text.length(); i++) {
-            x.type(text.charAt(i));
-        }
-    }
-
-    private static int wire(RingFrames x, String text) {
-        x.clear();
-        typeAll(x, text);
-        return x.wires();
-    }
-
-    private static int frame(RingFrames x, String text) {
-        x.clear();
-        typeAll(x, text);
-        return x.frames();
-    }
-
-    private static RingFrames ring(String wire, String frame) {
-        RingFrames x = new RingFrames();
-        wire(x, wire);
-        if (!frame.isEmpty()) {
-            frame(x, frame);
-        }
-        return x;
-    }
-
-    /** Four drives of stations 5, 6, 6, 9; lengths 2, 3, 1, 4, 5. */
-    private static final String CLOSED = "d2 5;d3 6;d1 6;d4 9;z5;";
-    private static final String OPEN = "d2 5;d3 6;d1 6;d4 9;";
-
+public final class PromisesTest extends Check {
     public static void main(String[] args) {
         aNewObject();
         type();
@@ -79,10 +35,7 @@ public final class PromisesTest {
         keepAndBack();
         count();
         allThatThereMayBe();
-        if (wrong != 0) {
-            System.out.println(wrong + " answers are not as due");
-            System.exit(1);
-        }
+        exitIfWrong();
     }
 
     private static void aNewObject() {
@@ -1029,7 +982,7 @@ public final class PromisesTest {
 
     private static void allThatThereMayBe() {
         promise = "all that there may be";
-        RingFrames x = ring("d9 15;d9 15;d9 15;d9 15;d9 15;d9 15;z9;m9;", "rp15 3 255;ws15 3 255;xb3 255;rp5 3 255;");
+        RingFrames x = ring(GREATEST, "rp15 3 255;ws15 3 255;xb3 255;rp5 3 255;");
         due("TIME", x.would(4), 69);
         due("how many may be CUT", x.which(0), 7);
         due("ask()", x.ask(), 4);
