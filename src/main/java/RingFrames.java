@@ -703,7 +703,6 @@ public final class RingFrames {
         }
 
         void send(Ring ring) {
-            served = 0;
             copyA.start(ring);
             copyB.start(ring);
             int end = ring.endOfA();

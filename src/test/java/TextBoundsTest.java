@@ -32,20 +32,33 @@ public final class TextBoundsTest extends Check {
 
     // ---- what is read, and where it can't be
 
+    /** How a text is told: as a wire or as a frame. */
+    private enum Kind {
+        WIRE, FRAME;
+
+        void reads(String text, int want) {
+            if (this == WIRE) {
+                due("wires() of '" + text + "'", wire(new RingFrames(), text), want);
+            } else {
+                due("frames() of '" + text + "'", frame(new RingFrames(), text), want);
+            }
+        }
+    }
+
     private static void wireReads(String text, int drives) {
-        due("wires() of '" + text + "'", wire(new RingFrames(), text), drives);
+        Kind.WIRE.reads(text, drives);
     }
 
     private static void wireFault(String text, int fault) {
-        wireReads(text, -10 - fault);
+        Kind.WIRE.reads(text, -10 - fault);
     }
 
     private static void frameReads(String text, int orders) {
-        due("frames() of '" + text + "'", frame(new RingFrames(), text), orders);
+        Kind.FRAME.reads(text, orders);
     }
 
     private static void frameFault(String text, int fault) {
-        frameReads(text, -10 - fault);
+        Kind.FRAME.reads(text, -10 - fault);
     }
 
     // ---- letters
@@ -295,83 +308,64 @@ public final class TextBoundsTest extends Check {
     // ---- every letter, at every place that a TOKEN can have
 
     /** Behind the text (which ends in a blank or a letter) these letters and blanks can stand; no other can. */
-    private static void canStandInAWire(String text, String letters) {
+    private static void canStand(Kind kind, String text, String letters) {
         for (int c = 0; c <= 255; c++) {
             boolean can = c == ' ' || letters.indexOf(c) >= 0;
-            wireFault(text + (char) c, text.length() + (can ? 1 : 0));
+            kind.reads(text + (char) c, -10 - text.length() - (can ? 1 : 0));
         }
     }
 
-    private static void canStandInAFrame(String text, String letters) {
+    /** Behind the text only blanks and ; can stand, and with ; it can be read. */
+    private static void ends(Kind kind, String text) {
         for (int c = 0; c <= 255; c++) {
-            boolean can = c == ' ' || letters.indexOf(c) >= 0;
-            frameFault(text + (char) c, text.length() + (can ? 1 : 0));
+            kind.reads(text + (char) c, c == ';' ? 1 : -10 - text.length() - (c == ' ' ? 1 : 0));
         }
     }
 
-    /** Behind the text only blanks and ; can stand, and with ; the wire can be read. */
-    private static void endsAWire(String text, int drives) {
+    /** The text can be read; an item more can begin with these letters alone. */
+    private static void canBegin(Kind kind, String text, String letters, int answer) {
         for (int c = 0; c <= 255; c++) {
-            wireReads(text + (char) c, c == ';' ? drives : -10 - text.length() - (c == ' ' ? 1 : 0));
+            boolean can = letters.indexOf(c) >= 0;
+            kind.reads(text + (char) c, c == ' ' ? answer : -10 - text.length() - (can ? 1 : 0));
         }
     }
 
     private static void everyLetterOfAWire() {
         promise = "FAULT of every letter of a WIRE";
-        canStandInAWire("", "dm");
-        canStandInAWire("m", "123456789");
-        canStandInAWire("m1 ", ";");
-        canStandInAWire("m1;", "d");
-        canStandInAWire("d", "123456789");
-        canStandInAWire("d1 ", "0123456789");
-        endsAWire("d1 1 ", 1);
-        canStandInAWire("d1 1;z", "123456789");
-        endsAWire("d1 1;z1 ", 1);
-        endsAWire("d1 1;m1 ", 1);
-        behindAWholeWire("d1 1;", "dzm", 1);
-        behindAWholeWire("d1 1;m1;", "dz", 1);
-        behindAWholeWire("d1 1;z1;", "m", 1);
-        behindAWholeWire("d1 1;z1;m1;", "", 1);
-        behindAWholeWire("d1 1;".repeat(6), "zm", 6);
-    }
-
-    private static void behindAWholeWire(String text, String letters, int drives) {
-        for (int c = 0; c <= 255; c++) {
-            boolean goesOn = letters.indexOf(c) >= 0;
-            wireReads(text + (char) c, c == ' ' ? drives : -10 - text.length() - (goesOn ? 1 : 0));
-        }
+        canStand(Kind.WIRE, "", "dm");
+        canStand(Kind.WIRE, "m", "123456789");
+        canStand(Kind.WIRE, "m1 ", ";");
+        canStand(Kind.WIRE, "m1;", "d");
+        canStand(Kind.WIRE, "d", "123456789");
+        canStand(Kind.WIRE, "d1 ", "0123456789");
+        ends(Kind.WIRE, "d1 1 ");
+        canStand(Kind.WIRE, "d1 1;z", "123456789");
+        ends(Kind.WIRE, "d1 1;z1 ");
+        ends(Kind.WIRE, "d1 1;m1 ");
+        canBegin(Kind.WIRE, "d1 1;", "dzm", 1);
+        canBegin(Kind.WIRE, "d1 1;m1;", "dz", 1);
+        canBegin(Kind.WIRE, "d1 1;z1;", "m", 1);
+        canBegin(Kind.WIRE, "d1 1;z1;m1;", "", 1);
+        canBegin(Kind.WIRE, "d1 1;".repeat(6), "zm", 6);
     }
 
     private static void everyLetterOfAFrame() {
         promise = "FAULT of every letter of a FRAME";
-        canStandInAFrame("", "rwx");
+        canStand(Kind.FRAME, "", "rwx");
         for (String op : new String[] {"r", "w", "x"}) {
-            canStandInAFrame(op, "psb");
-            canStandInAFrame(op + "p", "0123456789");
-            canStandInAFrame(op + "s", "0123456789");
-            canStandInAFrame(op + "b", "0123");
-            canStandInAFrame(op + "p1 ", "0123");
-            canStandInAFrame(op + "p1 1 ", "0123456789");
-            canStandInAFrame(op + "b1 ", "0123456789");
-            endsAFrame(op + "b1 1 ");
-            endsAFrame(op + "s1 1 1 ");
+            canStand(Kind.FRAME, op, "psb");
+            canStand(Kind.FRAME, op + "p", "0123456789");
+            canStand(Kind.FRAME, op + "s", "0123456789");
+            canStand(Kind.FRAME, op + "b", "0123");
+            canStand(Kind.FRAME, op + "p1 ", "0123");
+            canStand(Kind.FRAME, op + "p1 1 ", "0123456789");
+            canStand(Kind.FRAME, op + "b1 ", "0123456789");
+            ends(Kind.FRAME, op + "b1 1 ");
+            ends(Kind.FRAME, op + "s1 1 1 ");
         }
-        behindAWholeFrame("rb0 0;", "rwx", 1);
-        behindAWholeFrame("rb0 0;".repeat(3), "rwx", 3);
-        behindAWholeFrame("rb0 0;".repeat(4), "", 4);
-    }
-
-    private static void endsAFrame(String text) {
-        for (int c = 0; c <= 255; c++) {
-            frameReads(text + (char) c, c == ';' ? 1 : -10 - text.length() - (c == ' ' ? 1 : 0));
-        }
-    }
-
-    private static void behindAWholeFrame(String text, String letters, int orders) {
-        for (int c = 0; c <= 255; c++) {
-            boolean goesOn = letters.indexOf(c) >= 0;
-            frameReads(text + (char) c, c == ' ' ? orders : -10 - text.length() - (goesOn ? 1 : 0));
-        }
+        canBegin(Kind.FRAME, "rb0 0;", "rwx", 1);
+        canBegin(Kind.FRAME, "rb0 0;".repeat(3), "rwx", 3);
+        canBegin(Kind.FRAME, "rb0 0;".repeat(4), "", 4);
     }
 
     // ---- the end, the first fault, and what stays
