@@ -34,11 +34,13 @@ public final class BoundsTest extends Check {
         whatIsRefusedIsNotKnown();
         seenFromNoneToSix();
         seenFromLeastToGreatest();
+        seenIsNeitherUndoneNorKept();
         whichOfNoneAndOfAll();
         anOrderThatThereIsNot();
         timesWithoutAFrame();
         askOfNoneOneAndTwo();
         askOfSeveralTheFirst();
+        askOfNumbersThatDifferByOne();
         imagesZeroAndOne();
         imagesKeepNothingElse();
         resultsOfNoCycle();
@@ -673,6 +675,34 @@ public final class BoundsTest extends Check {
         due("what 6, NONE", x.sees(6, NONE), BAD);
     }
 
+    private static void seenIsNeitherUndoneNorKept() {
+        promise = "SEEN is told in 3: neither UNDONE nor kept";
+        RingFrames x = ring("d1 1;d1 1;", "rb0 0;");
+        x.keep(0);
+        x.drifts(0, 1);
+        x.sees(0, 1);
+        x.undo();
+        due("undo() of what was ahead of it", x.count(10), 1);
+        due("how many", x.which(0), 1);
+        x.drifts(0, 1);
+        x.forget();
+        x.undo();
+        due("undo() doesn't bring it back", x.count(10), 0);
+        x.sees(0, 1);
+        x.keep(1);
+        x.sees(4, 3);
+        x.back(0);
+        due("back() to an IMAGE of ahead of it", x.count(10), 2);
+        due("how many", x.which(0), 1);
+        x.back(1);
+        due("back() to an IMAGE of between", x.count(10), 2);
+        due("a WIRE told", wire(x, "d1 1;d1 1;"), 2);
+        due("SEEN", x.count(10), 2);
+        due("asked of the WIRE that is now", x.which(0), 0);
+        due("a FRAME told", frame(x, "rb0 0;"), 1);
+        due("asked of the FRAME that is now", x.which(1), 1);
+    }
+
     private static void whichOfNoneAndOfAll() {
         promise = "WHICH: how many, the least, NONE, SOUND";
         RingFrames x = ring(GREATEST, "rb0 0;");
@@ -774,6 +804,32 @@ public final class BoundsTest extends Check {
         due("two that are alike in all", y.ask(), 0);
         RingFrames z = ring("d1 1;".repeat(3), "rp0 0 0;rp1 0 0;rb0 0;");
         due("three of one each, ahead of two and one", z.ask(), 2);
+    }
+
+    private static void askOfNumbersThatDifferByOne() {
+        promise = "ASK: one alike less is less";
+        for (int cut = 1; cut <= 4; cut++) {
+            // The last DRIVE ahead of the cut isn't told by COUNTS: one LINK more is alike in them than in TIME.
+            RingFrames x = ring("d1 1;".repeat(cut - 1) + "d1 2;".repeat(7 - cut), "rs1 0 0;");
+            x.cuts(cut);
+            due("COUNT " + (6 - cut) + ", TIME " + (5 - cut), x.ask(), 4);
+        }
+        RingFrames y = ring("d1 1;".repeat(6) + "z1;", "rs9 0 0;rb0 0;");
+        y.cuts(3);
+        due("COUNTS 6 and 2, TIMES 3", y.ask(), 1);
+        frame(y, "rb0 0;");
+        due("COUNT 2, TIMES 3", y.ask(), 0);
+        for (int drives = 3; drives <= 5; drives += 2) {
+            int least = drives - 1 >> 1;
+            due("TIMES " + (least + 1) + " and " + least, cutAt(drives, least).ask(), 5);
+            due("TIMES " + least + " and " + (least + 1), cutAt(drives, least + 1).ask(), 4);
+        }
+    }
+
+    private static RingFrames cutAt(int drives, int link) {
+        RingFrames x = ring("d1 1;".repeat(drives) + "z1;", "rs9 0 0;");
+        x.cuts(link);
+        return x;
     }
 
     // ---- images
